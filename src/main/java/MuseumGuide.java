@@ -22,8 +22,8 @@ public final class MuseumGuide {
     private final Row paces = new Row(MOST_VISITORS);
     private final Row staminas = new Row(MOST_VISITORS);
     private final Row kinds = new Row(MOST_VISITORS);
-    private final Visit latest = new Visit(plan, MOST_EVENTS);
-    private final Visit trial = new Visit(plan, 0);
+    private final Visit latestVisit = new Visit(plan, MOST_EVENTS);
+    private final Visit trialVisit = new Visit(plan, 0);
     private final Runner runner = new Runner(plan);
     private final Composer composer = new Composer(plan);
     private Text draft = new Text();
@@ -74,7 +74,7 @@ public final class MuseumGuide {
         }
         errorPlace = -1;
         draft = plan.furnish(draft);
-        latest.forget();
+        latestVisit.forget();
         return 0;
     }
 
@@ -99,7 +99,7 @@ public final class MuseumGuide {
             case 6:
                 return composer.paper.size();
             case 7:
-                return latest.events();
+                return latestVisit.events();
             default:
                 throw new IndexOutOfBoundsException("what is not 0 to 7");
         }
@@ -195,34 +195,34 @@ public final class MuseumGuide {
         requireRoom(room);
         requireRange(second, 0, MOST_BEGIN);
         requireRange(time, 1, MOST_TIME);
-        enter(latest.stand, visitor, room, second);
-        latest.begin(time);
-        return runner.run(latest, tour);
+        enter(latestVisit.stand, visitor, room, second);
+        latestVisit.begin(time);
+        return runner.run(latestVisit, tour);
     }
 
     public int latest(int what) throws IndexOutOfBoundsException, IllegalStateException {
         if (what < 0 || what > 9) {
             throw new IndexOutOfBoundsException("what is not 0 to 9");
         }
-        if (!latest.happened()) {
+        if (!latestVisit.happened()) {
             throw new IllegalStateException("there was no visit");
         }
-        return latest.tell(what);
+        return latestVisit.tell(what);
     }
 
     public int event(int index, int what) throws IndexOutOfBoundsException {
-        if (index < 0 || index >= latest.events()) {
+        if (index < 0 || index >= latestVisit.events()) {
             throw new IndexOutOfBoundsException("no such event");
         }
         if (what < 0 || what > 2) {
             throw new IndexOutOfBoundsException("what is not 0 to 2");
         }
-        return latest.log.get(index * Visit.EVENT_WIDTH + what);
+        return latestVisit.log.get(index * Visit.EVENT_WIDTH + what);
     }
 
     public boolean heard(int part) throws IndexOutOfBoundsException {
         requirePart(part);
-        return latest.stand.hasHeard(part);
+        return latestVisit.stand.hasHeard(part);
     }
 
     public int begins(int visitor, int tour, int room, int second, int time)
@@ -235,9 +235,9 @@ public final class MuseumGuide {
         int most = -1;
         int best = second;
         for (int later = 0; later < 6000; later += 300) {
-            enter(trial.stand, visitor, room, second + later);
-            trial.begin(time);
-            int worth = runner.run(trial, tour);
+            enter(trialVisit.stand, visitor, room, second + later);
+            trialVisit.begin(time);
+            int worth = runner.run(trialVisit, tour);
             if (worth > most) {
                 most = worth;
                 best = second + later;
@@ -254,9 +254,9 @@ public final class MuseumGuide {
         requireRange(second, 0, MOST_BEGIN);
         requireRange(worth, 0, 2000);
         for (int time = 100; time <= 6000; time += 100) {
-            enter(trial.stand, visitor, room, second);
-            trial.begin(time);
-            if (runner.run(trial, tour) >= worth) {
+            enter(trialVisit.stand, visitor, room, second);
+            trialVisit.begin(time);
+            if (runner.run(trialVisit, tour) >= worth) {
                 return time;
             }
         }
@@ -300,7 +300,7 @@ public final class MuseumGuide {
         if (parts == 0) {
             return 0;
         }
-        return (double) Integer.bitCount(latest.stand.heard) / parts;
+        return (double) Integer.bitCount(latestVisit.stand.heardParts) / parts;
     }
 
     public long digest() {
@@ -319,7 +319,7 @@ public final class MuseumGuide {
                 d = d * 31 + visitor(visitor, what);
             }
         }
-        if (latest.happened()) {
+        if (latestVisit.happened()) {
             d = digestVisit(d);
         }
         for (int index = 0; index < composer.paper.size(); index++) {
@@ -343,10 +343,10 @@ public final class MuseumGuide {
     private long digestVisit(long start) {
         long d = start;
         for (int what = 0; what < 10; what++) {
-            d = d * 31 + latest.tell(what);
+            d = d * 31 + latestVisit.tell(what);
         }
-        for (int index = 0; index < latest.log.size(); index++) {
-            d = d * 31 + latest.log.get(index);
+        for (int index = 0; index < latestVisit.log.size(); index++) {
+            d = d * 31 + latestVisit.log.get(index);
         }
         return d;
     }
@@ -1361,7 +1361,7 @@ public final class MuseumGuide {
         int room;
         int tired;
         // The parts that were heard, as the sum of the powers 2^part.
-        int heard;
+        int heardParts;
         int worth;
 
         void isOf(int newPace, int newStamina, int newKind) {
@@ -1374,7 +1374,7 @@ public final class MuseumGuide {
             second = newSecond;
             room = newRoom;
             tired = newTired;
-            heard = newHeard;
+            heardParts = newHeard;
             worth = newWorth;
         }
 
@@ -1383,7 +1383,7 @@ public final class MuseumGuide {
         }
 
         boolean hasHeard(int part) {
-            return (heard >> part & 1) != 0;
+            return (heardParts >> part & 1) != 0;
         }
 
         void walk(int steps, int to) {
@@ -1408,12 +1408,12 @@ public final class MuseumGuide {
             return room == text.partRooms.get(part)
                 && !hasHeard(part)
                 && (partKind == 0 || partKind == kind)
-                && (text.partNeeds.get(part) & ~heard) == 0;
+                && (text.partNeeds.get(part) & ~heardParts) == 0;
         }
 
         void hear(Text text, int part) {
             second += text.partLengths.get(part);
-            heard |= 1 << part;
+            heardParts |= 1 << part;
             worth += text.partWorths.get(part);
         }
     }
@@ -1487,7 +1487,7 @@ public final class MuseumGuide {
                 case 1:
                     return stand.room;
                 case 2:
-                    return Integer.bitCount(stand.heard);
+                    return Integer.bitCount(stand.heardParts);
                 case 3:
                     return stand.worth;
                 case 4:
@@ -1803,7 +1803,7 @@ public final class MuseumGuide {
             int second = stand.second;
             int room = stand.room;
             int tired = stand.tired;
-            int heard = stand.heard;
+            int heard = stand.heardParts;
             int worth = stand.worth;
             int chosen = -1;
             int most = -1;
@@ -1830,7 +1830,7 @@ public final class MuseumGuide {
             int second = stand.second;
             int room = stand.room;
             int tired = stand.tired;
-            int heard = stand.heard;
+            int heard = stand.heardParts;
             int worth = stand.worth;
             int most = worth;
             if (depth >= MOST_SEARCHED) {

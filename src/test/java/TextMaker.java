@@ -14,6 +14,7 @@ final class TextMaker {
     private final List<String> tokens = new ArrayList<>();
     private final List<String> rooms = new ArrayList<>();
     private final List<String> parts = new ArrayList<>();
+    private final List<String> partRooms = new ArrayList<>();
     private final List<String> tours = new ArrayList<>();
     private int depth;
 
@@ -59,7 +60,7 @@ final class TextMaker {
                 door();
             }
         }
-        int doors = chance(4) ? 20 + below(8) : below(12);
+        int doors = chance(4) ? 20 + below(8) : roomCount / 2 + below(8);
         for (int k = 0; k < doors; k++) {
             door();
         }
@@ -75,7 +76,7 @@ final class TextMaker {
         for (int k = 0; k < tourCount; k++) {
             tour();
         }
-        if (chance(15)) {
+        if (chance(8)) {
             spoil();
         }
         String text = joined();
@@ -135,8 +136,9 @@ final class TextMaker {
 
     private void part() {
         String name = fresh("p", parts);
-        put("part", name, "in", one(rooms), chance(70) ? 1 + below(200) : range(1, 900));
-        if (parts.size() > 1 && chance(40)) {
+        partRooms.add(one(rooms));
+        put("part", name, "in", partRooms.get(partRooms.size() - 1), chance(70) ? 1 + below(200) : range(1, 900));
+        if (parts.size() > 1 && chance(30)) {
             put("needs");
             for (boolean more = false; !more || chance(30); more = true) {
                 if (more) {
@@ -145,8 +147,8 @@ final class TextMaker {
                 put(below(200) == 0 ? name : parts.get(below(parts.size() - 1)));
             }
         }
-        if (chance(40)) {
-            put("for", new String[] {"all", "child", "expert"}[below(3)]);
+        if (chance(30)) {
+            put("for", chance(40) ? "all" : new String[] {"all", "child", "expert"}[below(3)]);
         }
         if (chance(70)) {
             put("worth", range(0, 99));
@@ -177,8 +179,14 @@ final class TextMaker {
 
     private void sentence() {
         int kind = below(deep() ? 60 : 100);
-        if (kind < 25) {
+        if (kind < 15) {
             put("go", one(rooms), ";");
+        } else if (kind < 35) {
+            if (parts.isEmpty()) {
+                return;
+            }
+            int part = below(parts.size());
+            put("go", partRooms.get(part), ";", "play", parts.get(part), ";");
         } else if (kind < 45) {
             if (parts.isEmpty()) {
                 return;
