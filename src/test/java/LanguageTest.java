@@ -168,6 +168,7 @@ public final class LanguageTest {
         Check.error("room a;part p in a 9for all worth 3;", 0, -1);
         Check.error("room a;part p in a 9worth 3;", 0, -1);
         Check.error("room abcdefghij;", 0, -1);
+        Check.error("room a0z9; room z; room az9;", 0, -1);
         Check.errorAtMark("room @abcdefghijk;", 1);
         Check.errorAtMark("room @a123456789b;", 1);
         Check.error("tour t { if 1 = 999999 { } if 000001 = 1 { } }", 0, -1);
