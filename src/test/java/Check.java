@@ -4,6 +4,9 @@ import java.util.Objects;
 final class Check {
     private static int checks = 0;
     private static int wrong = 0;
+    // The sentence of the document that is looked at, and how many answers were when it began.
+    private static String sentence = "";
+    private static int checksBefore = 0;
 
     private Check() {
     }
@@ -13,11 +16,26 @@ final class Check {
         Object run();
     }
 
+    /** From here on wrong answers are told with this sentence of the document. */
+    static void sentence(String words) {
+        endSentence();
+        sentence = words;
+        checksBefore = checks;
+    }
+
+    private static void endSentence() {
+        if (!sentence.isEmpty() && checks == checksBefore) {
+            wrong++;
+            System.out.println("no answer looked at for: " + sentence);
+        }
+    }
+
     static void same(String what, Object got, Object due) {
         checks++;
         if (!Objects.equals(got, due)) {
             wrong++;
-            System.out.println(what + " answered " + got + ", due is " + due);
+            System.out.println(what + " answered " + got + ", due is " + due
+                + (sentence.isEmpty() ? "" : " (" + sentence + ")"));
         }
     }
 
@@ -121,6 +139,7 @@ final class Check {
     }
 
     static void finish(String test) {
+        endSentence();
         System.out.println(test + ": " + checks + " answers, " + wrong + " wrong");
         if (wrong > 0 || checks == 0) {
             System.exit(1);
