@@ -522,6 +522,12 @@ public final class ComposingEdgesTest {
             Check.same("best() with just the time", guide.best(0, 0, 0, lengths[k] + 30), due[k]);
             Check.same("best() with a second less", guide.best(0, 0, 0, lengths[k] + 29), 1);
         }
+        // Nor does one go where one hears nothing: there and back b would be open.
+        MuseumGuide still = guide("room a;room b;door a b 10;part p in b 10 worth 9;");
+        still.close(1, 0, 15);
+        Check.is("best() of one who could walk till it is open", () -> still.best(0, 1, 0, 20000), 0);
+        Check.is("compose() of the same", () -> still.compose(0, 1, 0, 20000), 0);
+        Check.is("best() when it is open", () -> still.best(0, 1, 15, 20000), 9);
         // Ways tire: from b p is over at 10, q at 80, and r, behind a rest that one has to take, at 210.
         MuseumGuide tired = Check.taught("room a;room b;door a b 30;part p in b 10;part q in a 10;part r in b 10 needs q;");
         tired.come(6, 59, 0);
