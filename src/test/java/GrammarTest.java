@@ -229,9 +229,10 @@ public final class GrammarTest {
             due.retainAll(terminals);
             List<String> choice = new ArrayList<>(due);
             if (choice.isEmpty()) {
-                // Behind a min or max where its ( would be too deep: another token instead.
-                made.remove(made.size() - 1);
-                chart.remove(chart.size() - 1);
+                // Nothing but what would be too deep: another way from a few tokens ahead.
+                int kept = Math.max(0, made.size() - 1 - random.nextInt(4));
+                made.subList(kept, made.size()).clear();
+                chart.subList(kept + 1, chart.size()).clear();
                 continue;
             }
             String terminal = choice.get(random.nextInt(choice.size()));
